@@ -1,0 +1,295 @@
+/** Promises 1 to 4: a new object, append, load, errorOffset. */
+final class SetupTest {
+    private static final Check CHECK = new Check("SetupTest");
+    private static final String EIGHT_BY_TWELVE = "abcdefghijkl ";
+
+    public static void main(String[] args) {
+        newObject();
+        append();
+        bufferOfLoad();
+        failedLoad();
+        loadReplacesAll();
+        rightTexts();
+        boxErrors();
+        planeErrors();
+        otherErrors();
+        priceErrors();
+        tooMany();
+        defaults();
+        CHECK.finish();
+    }
+
+    private static void newObject() {
+        PeepBox box = new PeepBox();
+        long[] due = {4, 3, 2, 1, 9, 3, 0, 0, 0, 0, 0, 0, 0, 1};
+        for (int what = 0; what < due.length; what++) {
+            CHECK.same("new state(" + what + ")", box.state(what), due[what]);
+        }
+        CHECK.same("new checksum", box.checksum(), Check.loaded("box 4 3 2;").checksum());
+        CHECK.same("new errorOffset", box.errorOffset(), -1);
+        CHECK.same("new undo", box.undo(), -1);
+        CHECK.illegal("new load(1)", () -> box.load(1));
+        CHECK.same("new append", box.append(0, 0, 0, 0, 0), 20);
+    }
+
+    private static void append() {
+        PeepBox box = new PeepBox();
+        for (int i = 1; i <= 39; i++) {
+            CHECK.same("append no. " + i, box.append(0x20202020, 0x20202020, 0x20202020, 0x20202020, 0x20202020), 20 * i);
+        }
+        CHECK.same("append no. 40", box.append(0x626f7820, 0x35203620, 0x333b2020, 0x20202020, 0x20202020), 800);
+        CHECK.same("append no. 41", box.append(0, 0, 0, 0, 0), -1);
+        CHECK.same("append no. 42", box.append(0, 0, 0, 0, 0), -1);
+        CHECK.illegal("load(801)", () -> box.load(801));
+        CHECK.same("load(800)", box.load(800), 0);
+        CHECK.same("width", box.state(0), 5);
+        CHECK.same("height", box.state(1), 6);
+        CHECK.same("planes", box.state(2), 3);
+        CHECK.same("append after load", box.append(0, 0, 0, 0, 0), 20);
+    }
+
+    private static void bufferOfLoad() {
+        PeepBox box = new PeepBox();
+        Check.append(box, "box 1 1 1;viewer 1 a 1;nonsense");
+        CHECK.illegal("load(-1)", () -> box.load(-1));
+        CHECK.illegal("load(41)", () -> box.load(41));
+        CHECK.illegal("load(least)", () -> box.load(Integer.MIN_VALUE));
+        CHECK.illegal("load(most)", () -> box.load(Integer.MAX_VALUE));
+        CHECK.same("load of the first bytes", box.load(23), 1);
+        CHECK.same("the rest is gone", box.append(0, 0, 0, 0, 0), 20);
+        CHECK.same("load(0)", box.load(0), PeepBox.SYNTAX_ERROR);
+        CHECK.same("errorOffset", box.errorOffset(), 0);
+        CHECK.illegal("load(1)", () -> box.load(1));
+        Check.append(box, "box 1 1 1;");
+        CHECK.same("load(9)", box.load(9), PeepBox.SYNTAX_ERROR);
+        CHECK.same("errorOffset", box.errorOffset(), 9);
+        CHECK.illegal("load(21)", () -> box.load(21));
+        CHECK.same("a throwing load keeps the offset", box.errorOffset(), 9);
+        CHECK.same("load right again", Check.load(box, "box 1 1 1;"), 0);
+        CHECK.same("errorOffset", box.errorOffset(), -1);
+    }
+
+    private static void failedLoad() {
+        PeepBox box = Check.loaded("box 3 2 2;plane a.b .c.;hole 1 1;reach 4;length 2;viewer 1 a 50;price 7;");
+        box.pass(1);
+        box.pull(0, 1);
+        long before = box.checksum();
+        CHECK.same("failing load", Check.load(box, "box 2 1 2;plane bb;hole 1 0;reach 1;length 9;viewer 2 b 9;price 1;x"),
+                PeepBox.SYNTAX_ERROR);
+        CHECK.same("data of before", box.checksum(), before);
+        CHECK.same("price of before", box.price(0, 0), 7);
+        CHECK.same("a failing load is no change", box.undo(), 2);
+        CHECK.same("pull undone", box.plane(0, 0), 0);
+    }
+
+    private static void loadReplacesAll() {
+        PeepBox box = Check.loaded("box 3 2 2;plane aab aca;hole 1 1;hole 0 0;reach 4;length 2;viewer 1 a 50;price 7;");
+        box.pull(0, 1);
+        box.pass(5);
+        box.come(1, 1, 1);
+        CHECK.same("load", Check.load(box, "box 4 3 2;"), 0);
+        CHECK.same("checksum", box.checksum(), new PeepBox().checksum());
+        box.come(0, 0, 900);
+        CHECK.same("price without its statement", box.price(0, 0), 13);
+        CHECK.same("pull back at 0", box.plane(0, 0), 0);
+        CHECK.same("undo", box.undo(), 5);
+        CHECK.same("undo of load", box.undo(), 4);
+        CHECK.same("price of before", box.price(0, 0), 7);
+    }
+
+    /** The byte ^ marks the error. */
+    private static void bad(int code, String marked) {
+        int offset = marked.indexOf('^');
+        String text = marked.substring(0, offset) + marked.substring(offset + 1);
+        PeepBox box = new PeepBox();
+        CHECK.same("load of " + marked, Check.load(box, text), code);
+        CHECK.same("errorOffset of " + marked, box.errorOffset(), offset);
+        CHECK.same("checksum after " + marked, box.checksum(), new PeepBox().checksum());
+        CHECK.same("undo after " + marked, box.undo(), -1);
+    }
+
+    private static void good(int viewers, String text) {
+        PeepBox box = new PeepBox();
+        CHECK.same("load of " + text, Check.load(box, text), viewers);
+        CHECK.same("errorOffset of " + text, box.errorOffset(), -1);
+        CHECK.same("undo after " + text, box.undo(), 0);
+    }
+
+    private static void rightTexts() {
+        good(0, "box4 3 2;");
+        good(0, "   box   4   3   2   ;   ");
+        good(0, "box 12 8 5;");
+        good(0, "box 1 1 1;");
+        good(0, "box 000000000000000000000000000000000000004 03 002;");
+        good(0, "box 2 1 2;plane..;");
+        good(0, "box 2 1 2;plane.a;plane ab;");
+        good(0, "box 1 1 1;hole0 0;hole 0 0;hole 0 0;hole 00 00;");
+        good(0, "box 1 1 1;reach 0;");
+        good(0, "box 1 1 1;reach 9;length 20;");
+        good(0, "box 1 1 1;length 1;price 0;");
+        good(2, "box 1 1 1;viewer0z999;viewer 9 a 0;");
+        good(0, "box 1 1 1;price(((( 9999 ))))+((((1))));");
+        good(0, "box 1 1 1;price shown*kinds/depth-hole+0;");
+        good(0, "box 1 1 1;price 2*(shown + 1)*(3/(kinds-1));");
+    }
+
+    private static void boxErrors() {
+        bad(PeepBox.SYNTAX_ERROR, "^");
+        bad(PeepBox.SYNTAX_ERROR, "   ^");
+        bad(PeepBox.SYNTAX_ERROR, "^bo 4 3 2;");
+        bad(PeepBox.SYNTAX_ERROR, "^boxx 4 3 2;");
+        bad(PeepBox.SYNTAX_ERROR, " ^Box 4 3 2;");
+        bad(PeepBox.SYNTAX_ERROR, "^plane 4 3 2;");
+        bad(PeepBox.SYNTAX_ERROR, "box^");
+        bad(PeepBox.SYNTAX_ERROR, "box ^");
+        bad(PeepBox.SYNTAX_ERROR, "box^.4 3 2;");
+        bad(PeepBox.SYNTAX_ERROR, "box^\t4 3 2;");
+        bad(PeepBox.SYNTAX_ERROR, "box ^-4 3 2;");
+        bad(PeepBox.SYNTAX_ERROR, "box 4 3^;");
+        bad(PeepBox.SYNTAX_ERROR, "box 4 3 2^");
+        bad(PeepBox.SYNTAX_ERROR, "box 4 3 2  ^");
+        bad(PeepBox.SYNTAX_ERROR, "box 4 3 2 ^5;");
+        bad(PeepBox.SYNTAX_ERROR, "box 4 3 2;^;");
+        bad(PeepBox.SYNTAX_ERROR, "box 4 3 2; ^foo 1;");
+        bad(PeepBox.SYNTAX_ERROR, "box 4 3 2;^box 4 3 2;");
+        bad(PeepBox.SYNTAX_ERROR, "box 4 3 2;^7;");
+        bad(PeepBox.SYNTAX_ERROR, "box 4 3 2;^\u0000");
+        bad(PeepBox.SYNTAX_ERROR, "box 4 3 2;^\u00ff");
+        bad(PeepBox.SYNTAX_ERROR, "box 4 3 2;^\n");
+        bad(PeepBox.SYNTAX_ERROR, "box 4^\u00b2 3 2;");
+        bad(PeepBox.OUT_OF_RANGE, "box ^0 3 2;");
+        bad(PeepBox.OUT_OF_RANGE, "box ^13 3 2;");
+        bad(PeepBox.OUT_OF_RANGE, "box 4 ^0 2;");
+        bad(PeepBox.OUT_OF_RANGE, "box 4 ^9 2;");
+        bad(PeepBox.OUT_OF_RANGE, "box 4 3 ^0;");
+        bad(PeepBox.OUT_OF_RANGE, "box 4 3 ^6;");
+        bad(PeepBox.OUT_OF_RANGE, "box ^00000 3 2;");
+        bad(PeepBox.OUT_OF_RANGE, "box ^4294967300 3 2;");
+        bad(PeepBox.OUT_OF_RANGE, "box ^18446744073709551620 3 2;");
+        bad(PeepBox.OUT_OF_RANGE, "box ^99999999999999999999999999999999999999 3 2;");
+    }
+
+    private static void planeErrors() {
+        bad(PeepBox.SYNTAX_ERROR, "box 2 2 2;^planeaa aa;");
+        bad(PeepBox.SYNTAX_ERROR, "box 2 2 2;plane ^;");
+        bad(PeepBox.SYNTAX_ERROR, "box 2 2 2;plane aa^;");
+        bad(PeepBox.SYNTAX_ERROR, "box 2 2 2;plane aa ^");
+        bad(PeepBox.SYNTAX_ERROR, "box 2 2 2;plane aa ^5;");
+        bad(PeepBox.SYNTAX_ERROR, "box 2 2 2;plane aa a.^");
+        bad(PeepBox.SYNTAX_ERROR, "box 2 2 2;plane aa a. ^aa;");
+        bad(PeepBox.SYNTAX_ERROR, "box 2 2 2;plane aa a. ^a;");
+        bad(PeepBox.SYNTAX_ERROR, "box 2 2 2;plane aa a. ^.;");
+        bad(PeepBox.SYNTAX_ERROR, "box 2 2 2;plane aa aa;plane aa aa ^..;");
+        bad(PeepBox.SYNTAX_ERROR, "box 2 2 2;plane aa a.^A;");
+        bad(PeepBox.SYNTAX_ERROR, "box 2 2 2;plane ^Aa aa;");
+        bad(PeepBox.WRONG_LINE, "box 2 2 2;plane ^a;");
+        bad(PeepBox.WRONG_LINE, "box 2 2 2;plane ^a aa;");
+        bad(PeepBox.WRONG_LINE, "box 2 2 2;plane aa ^aaa;");
+        bad(PeepBox.WRONG_LINE, "box 2 2 2;plane aa ^.;");
+        bad(PeepBox.WRONG_LINE, "box 2 2 2;plane.. ^...;");
+        bad(PeepBox.WRONG_LINE, "box 2 2 2;plane aa aa;plane aa a^.;");
+        bad(PeepBox.WRONG_LINE, "box 2 2 2;plane aa aa;plane ^.. aa;");
+        bad(PeepBox.WRONG_LINE, "box 2 2 2;plane aa aa;plane aa ^aa.;");
+        bad(PeepBox.WRONG_LINE, "box 2 1 1;plane a^.;");
+        bad(PeepBox.WRONG_LINE, "box 1 1 1;plane ^ab");
+    }
+
+    private static void otherErrors() {
+        bad(PeepBox.SYNTAX_ERROR, "box 4 3 2;hole^;");
+        bad(PeepBox.SYNTAX_ERROR, "box 4 3 2;hole 1^;");
+        bad(PeepBox.SYNTAX_ERROR, "box 4 3 2;hole 1 1 ^1;");
+        bad(PeepBox.SYNTAX_ERROR, "box 4 3 2;^holes 1 1;");
+        bad(PeepBox.OUT_OF_RANGE, "box 4 3 2;hole ^4 0;");
+        bad(PeepBox.OUT_OF_RANGE, "box 4 3 2;hole 3 ^3;");
+        bad(PeepBox.OUT_OF_RANGE, "box 4 3 2;reach ^10;");
+        bad(PeepBox.SYNTAX_ERROR, "box 4 3 2;reach^;");
+        bad(PeepBox.SYNTAX_ERROR, "box 4 3 2;reach 1;^reach 1;");
+        bad(PeepBox.SYNTAX_ERROR, "box 4 3 2;reach 1;length 3; ^reach 11;");
+        bad(PeepBox.OUT_OF_RANGE, "box 4 3 2;length ^0;");
+        bad(PeepBox.OUT_OF_RANGE, "box 4 3 2;length ^21;");
+        bad(PeepBox.SYNTAX_ERROR, "box 4 3 2;length 1;^length 1;");
+        bad(PeepBox.SYNTAX_ERROR, "box 4 3 2;length 3^");
+        bad(PeepBox.SYNTAX_ERROR, "box 4 3 2;viewer ^a 1;");
+        bad(PeepBox.SYNTAX_ERROR, "box 4 3 2;viewer 1 ^1;");
+        bad(PeepBox.SYNTAX_ERROR, "box 4 3 2;viewer 1 ^. 1;");
+        bad(PeepBox.SYNTAX_ERROR, "box 4 3 2;viewer 1 a^. 1;");
+        bad(PeepBox.SYNTAX_ERROR, "box 4 3 2;viewer 1 a^;");
+        bad(PeepBox.SYNTAX_ERROR, "box 4 3 2;viewer 1 a 1 ^a;");
+        bad(PeepBox.OUT_OF_RANGE, "box 4 3 2;viewer ^10 a 1;");
+        bad(PeepBox.OUT_OF_RANGE, "box 4 3 2;viewer 1 ^ab 1;");
+        bad(PeepBox.OUT_OF_RANGE, "box 4 3 2;viewer 1 ^ab. 1;");
+        bad(PeepBox.OUT_OF_RANGE, "box 4 3 2;viewer 1 a ^1000;");
+    }
+
+    private static void priceErrors() {
+        bad(PeepBox.SYNTAX_ERROR, "box 4 3 2;price ^;");
+        bad(PeepBox.SYNTAX_ERROR, "box 4 3 2;price 1;^price 1;");
+        bad(PeepBox.SYNTAX_ERROR, "box 4 3 2;price 1 ^2;");
+        bad(PeepBox.SYNTAX_ERROR, "box 4 3 2;price 1 ^shown;");
+        bad(PeepBox.SYNTAX_ERROR, "box 4 3 2;price shown^2;");
+        bad(PeepBox.SYNTAX_ERROR, "box 4 3 2;price ^shownkinds;");
+        bad(PeepBox.SYNTAX_ERROR, "box 4 3 2;price ^a;");
+        bad(PeepBox.SYNTAX_ERROR, "box 4 3 2;price ^-1;");
+        bad(PeepBox.SYNTAX_ERROR, "box 4 3 2;price 1+^;");
+        bad(PeepBox.SYNTAX_ERROR, "box 4 3 2;price 1+^*2;");
+        bad(PeepBox.SYNTAX_ERROR, "box 4 3 2;price 1*^");
+        bad(PeepBox.SYNTAX_ERROR, "box 4 3 2;price (^);");
+        bad(PeepBox.SYNTAX_ERROR, "box 4 3 2;price (1^;");
+        bad(PeepBox.SYNTAX_ERROR, "box 4 3 2;price (1^");
+        bad(PeepBox.SYNTAX_ERROR, "box 4 3 2;price 1^);");
+        bad(PeepBox.SYNTAX_ERROR, "box 4 3 2;price (1)^(2);");
+        bad(PeepBox.SYNTAX_ERROR, "box 4 3 2;price ((((1^(1))));");
+        bad(PeepBox.SYNTAX_ERROR, "box 4 3 2;price 1^%2;");
+        bad(PeepBox.OUT_OF_RANGE, "box 4 3 2;price ^10000;");
+        bad(PeepBox.OUT_OF_RANGE, "box 4 3 2;price 1+(2*^4294967296);");
+        bad(PeepBox.TOO_DEEP, "box 4 3 2;price ((((^(1)))));");
+        bad(PeepBox.TOO_DEEP, "box 4 3 2;price ((((1)+(1))*((1+^(");
+        bad(PeepBox.TOO_DEEP, "box 4 3 2;price ((((^((((((((((((((((((((((((((((((((((((((((((((((((((((((((((((((((");
+    }
+
+    private static void tooMany() {
+        StringBuilder holes = new StringBuilder("box 1 1 1;");
+        holes.append("hole 0 0;".repeat(4));
+        good(0, holes.toString());
+        bad(PeepBox.TOO_MANY, holes + " ^hole 0 0;");
+        bad(PeepBox.TOO_MANY, holes + "^hole");
+        bad(PeepBox.SYNTAX_ERROR, holes + "^holes");
+        StringBuilder viewers = new StringBuilder("box 1 1 1;");
+        viewers.append("viewer 1 a 1;".repeat(20));
+        good(20, viewers.toString());
+        bad(PeepBox.TOO_MANY, viewers + "^viewer 1 a 1;");
+        bad(PeepBox.TOO_MANY, "box 1 1 2;plane a;plane a;^plane a;");
+        bad(PeepBox.TOO_MANY, "box 1 1 1;plane a;^plane ...;");
+        String full = "box 12 8 5;" + ("plane " + EIGHT_BY_TWELVE.repeat(8) + ";").repeat(5);
+        good(0, full);
+        bad(PeepBox.TOO_MANY, full + "^plane;");
+    }
+
+    private static void defaults() {
+        PeepBox box = Check.loaded("box 2 2 3;plane b. .c;");
+        CHECK.same("told kind", box.stands(0, 0, 0), 1);
+        CHECK.same("told open cell", box.stands(0, 1, 0), -1);
+        CHECK.same("second line", box.stands(0, 1, 1), 2);
+        CHECK.same("plane that is not told", box.plane(1, 1), 0);
+        CHECK.same("back that is not told", box.plane(2, 1), 4);
+        CHECK.same("back's kind", box.stands(2, 1, 1), 0);
+        CHECK.same("holes", box.state(3), 1);
+        CHECK.same("hole's x", box.hole(0, 0), 0);
+        CHECK.same("hole's y", box.hole(0, 1), 0);
+        CHECK.same("reach", box.state(4), 9);
+        CHECK.same("length", box.state(5), 3);
+        PeepBox told = Check.loaded("box 2 2 1;plane xy zb;hole 1 0;hole 0 1;reach 0;length 20;viewer 3 d 77;");
+        CHECK.same("back told", told.stands(0, 1, 0), 24);
+        CHECK.same("holes", told.state(3), 2);
+        CHECK.same("first hole's x", told.hole(0, 0), 1);
+        CHECK.same("first hole's y", told.hole(0, 1), 0);
+        CHECK.same("second hole's x", told.hole(1, 0), 0);
+        CHECK.same("second hole's y", told.hole(1, 1), 1);
+        CHECK.same("reach", told.state(4), 0);
+        CHECK.same("length", told.state(5), 20);
+        long[] viewer = {3, 3, 77, 0, -1, 0, 0};
+        for (int what = 0; what < viewer.length; what++) {
+            CHECK.same("viewer(0, " + what + ")", told.viewer(0, what), viewer[what]);
+        }
+    }
+}
