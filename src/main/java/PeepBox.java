@@ -383,8 +383,12 @@ public final class PeepBox {
             holes = 0;
             reach = MOST_REACH;
             Arrays.fill(cells, OPEN);
-            Arrays.fill(cells, (planes - 1) * MOST_CELLS, planes * MOST_CELLS, 0);
             Arrays.fill(pulls, 0);
+            for (int y = 0; y < height; y++) {
+                for (int x = 0; x < width; x++) {
+                    setKind(planes - 1, x, y, 0);
+                }
+            }
             price.begin();
         }
 

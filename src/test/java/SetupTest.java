@@ -16,6 +16,8 @@ final class SetupTest {
         priceErrors();
         tooMany();
         defaults();
+        textEndsInsideRun();
+        oneTextAfterTheOther();
         CHECK.finish();
     }
 
@@ -80,6 +82,46 @@ final class SetupTest {
         CHECK.same("price of before", box.price(0, 0), 7);
         CHECK.same("a failing load is no change", box.undo(), 2);
         CHECK.same("pull undone", box.plane(0, 0), 0);
+    }
+
+    /** The bytes behind the text are no part of a run that its end cuts. */
+    private static void textEndsInsideRun() {
+        cut("box 1 1 1", "5;");
+        cut("box 2 1 2;plane ab", "c;");
+        cut("box 2 1 2;plane ab", ".;");
+        cut("box 1 1 1;viewer 1 a", "b 1;");
+        cut("box 1 1 1;reach", "x 1;");
+        cut("box 1 1 1;price shown", "s;");
+        cut("box 1 1 1;price 9999", "9;");
+        cut("box 1 1 1;price 1", "+;");
+        cut("box 1 1 1", ";");
+    }
+
+    private static void cut(String text, String behind) {
+        PeepBox box = new PeepBox();
+        Check.append(box, text + behind);
+        CHECK.same("load of " + text + " ahead of " + behind, box.load(text.length()), PeepBox.SYNTAX_ERROR);
+        CHECK.same("errorOffset of " + text + " ahead of " + behind, box.errorOffset(), text.length());
+    }
+
+    private static void oneTextAfterTheOther() {
+        PeepBox box = new PeepBox();
+        String text = "box 2 1 2;plane b.;plane cd;hole 1 0;hole 0 0;reach 3;length 4;price 5;viewer 1 a 9;";
+        for (int times = 1; times <= 3; times++) {
+            CHECK.same("load no. " + times, Check.load(box, text), 1);
+            CHECK.same("holes", box.state(3), 2);
+            CHECK.same("viewers", box.state(7), 1);
+            CHECK.same("stands", box.stands(0, 0, 0), 1);
+            CHECK.same("price", box.price(0, 0), 5);
+            Check.load(box, text + ";");
+        }
+        CHECK.same("load", Check.load(box, "box 2 1 2;viewer 1 d 9;"), 1);
+        CHECK.same("plane that is not told again", box.stands(0, 0, 0), -1);
+        CHECK.same("back that is not told again", box.stands(1, 1, 0), 0);
+        CHECK.same("holes", box.state(3), 1);
+        CHECK.same("reach", box.state(4), 9);
+        CHECK.same("length", box.state(5), 3);
+        CHECK.same("price", box.price(0, 0), 1);
     }
 
     private static void loadReplacesAll() {

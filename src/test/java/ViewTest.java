@@ -9,6 +9,8 @@ final class ViewTest {
         looksDown();
         hidden();
         bestPull();
+        greatest();
+        means();
         wrongCalls();
         CHECK.finish();
     }
@@ -61,6 +63,7 @@ final class ViewTest {
         CHECK.same("shown(0, c)", box.shown(0, 2), 2);
         CHECK.same("shown(0, z)", box.shown(0, 25), 1);
         CHECK.same("shown(0, b)", box.shown(0, 1), 0);
+        CHECK.same("shown(0, a)", box.shown(0, 0), 0);
         CHECK.same("shown(1, x)", box.shown(1, 23), 1);
         CHECK.same("hole(0, 3)", box.hole(0, 3), 2);
         CHECK.same("hole(0, 4)", box.hole(0, 4), 2);
@@ -111,6 +114,67 @@ final class ViewTest {
         CHECK.same("why when pulled", box.why(0, 1, 1, 1), 0);
         CHECK.same("hole(0, 3) when pulled", box.hole(0, 3), 4);
         CHECK.same("hole(0, 4) when pulled", box.hole(0, 4), 2);
+    }
+
+    /** Each cell's kind is another than those beside it, above it and behind it. */
+    private static void greatest() {
+        StringBuilder text = new StringBuilder("box 12 8 5;");
+        for (int plane = 0; plane < 5; plane++) {
+            text.append("plane");
+            for (int y = 0; y < 8; y++) {
+                text.append(' ');
+                for (int x = 0; x < 12; x++) {
+                    text.append((char) ('a' + (7 * plane + 5 * y + x) % 26));
+                }
+            }
+            text.append(';');
+        }
+        PeepBox box = Check.loaded(text + "hole 0 0;hole 11 7;hole 5 4;hole 0 7;");
+        for (int rows = 0; rows <= 8; rows++) {
+            for (int plane = 0; plane < 4; plane++) {
+                box.pull(plane, rows);
+                CHECK.same("plane(" + plane + ", 1) at " + rows, box.plane(plane, 1), 96 - 12 * rows);
+                for (int y = 0; y < 8; y++) {
+                    for (int x = 0; x < 12; x++) {
+                        CHECK.same("stands(" + plane + ", " + x + ", " + y + ") at " + rows, box.stands(plane, x, y),
+                                y + rows < 8 ? (7 * plane + 5 * (y + rows) + x) % 26 : -1);
+                    }
+                }
+            }
+        }
+        CHECK.same("bestPull of four holes", box.bestPull(0, 28 % 26), 8);
+        for (int hole = 0; hole < 4; hole++) {
+            for (int y = 0; y < 8; y++) {
+                for (int x = 0; x < 12; x++) {
+                    CHECK.same("sees(" + hole + ", " + x + ", " + y + ")", box.sees(hole, x, y),
+                            400 + (28 + 5 * y + x) % 26);
+                    CHECK.same("why(" + hole + ", 4, " + x + ", " + y + ")", box.why(hole, 4, x, y), 0);
+                    CHECK.same("why(" + hole + ", 3, " + x + ", " + y + ")", box.why(hole, 3, x, y), 1);
+                }
+            }
+        }
+        CHECK.same("plane(4, 1)", box.plane(4, 1), 96);
+        CHECK.same("plane(4, 2)", box.plane(4, 2), 384);
+    }
+
+    /** Depths whose sums leave all remainders. */
+    private static void means() {
+        String[] planes = {"plane b... ....;", "plane b... b...;", "plane bb.. ....;", "plane bbbb bbbb;"};
+        int[] due = {1, 1, 1, 1};
+        for (int i = 0; i < planes.length; i++) {
+            PeepBox box = Check.loaded("box 4 2 2;" + planes[i] + "hole 0 0;");
+            CHECK.same("depth of " + planes[i], box.hole(0, 4), due[i]);
+        }
+        PeepBox box = Check.loaded("box 3 1 2;plane b..;plane aaa;");
+        CHECK.same("sees(0, 2, 0)", box.sees(0, 2, 0), 100);
+        CHECK.same("depth of 4 by 3", box.hole(0, 4), 1);
+        PeepBox five = Check.loaded("box 3 1 2;plane b..;hole 2 0;");
+        CHECK.same("sees(0, 0, 0)", five.sees(0, 0, 0), 100);
+        five.pull(0, 1);
+        CHECK.same("depth of 6 by 3", five.hole(0, 4), 2);
+        PeepBox two = Check.loaded("box 3 1 2;plane .b.;hole 2 0;");
+        CHECK.same("sees(0, 0, 0)", two.sees(0, 0, 0), 1);
+        CHECK.same("depth of 5 by 3", two.hole(0, 4), 1);
     }
 
     private static void bestPull() {
