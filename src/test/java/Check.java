@@ -40,6 +40,24 @@ final class Check {
         throwing(call, IllegalArgumentException.class, run);
     }
 
+    /** The text is refused with this code at the byte that a ^ marks, and nothing else comes of it. */
+    void bad(int code, String marked) {
+        int offset = marked.indexOf('^');
+        String text = marked.substring(0, offset) + marked.substring(offset + 1);
+        PeepBox box = new PeepBox();
+        same("load of " + marked, load(box, text), code);
+        same("errorOffset of " + marked, box.errorOffset(), offset);
+        same("checksum after " + marked, box.checksum(), new PeepBox().checksum());
+        same("undo after " + marked, box.undo(), -1);
+    }
+
+    void good(int viewers, String text) {
+        PeepBox box = new PeepBox();
+        same("load of " + text, load(box, text), viewers);
+        same("errorOffset of " + text, box.errorOffset(), -1);
+        same("undo after " + text, box.undo(), 0);
+    }
+
     void tell(String text) {
         wrong++;
         if (wrong <= 40) {
