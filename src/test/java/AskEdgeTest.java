@@ -27,6 +27,7 @@ final class AskEdgeTest {
         planeFacts();
         planeThrows();
         holeNobody();
+        holeKindsAndDepth();
         holeThrows();
         seesThrows();
         shownNoneAndAll();
@@ -43,6 +44,7 @@ final class AskEdgeTest {
         bestPullSmallest();
         bestPullOfTheBack();
         bestPullAllElse();
+        bestPullAllHoles();
         bestPullThrows();
         foretoldOneToHundred();
         foretoldThoseOfNow();
@@ -146,6 +148,14 @@ final class AskEdgeTest {
         CHECK.same("load(9) without the ;", box.load(9), PeepBox.SYNTAX_ERROR);
         CHECK.same("its offset", box.errorOffset(), 9);
         CHECK.same("width", box.state(0), 5);
+        String[][] cuts = {{"box 1 1 1", "2;"}, {"box 1 1 1;plane a", "b;"}, {"box 1 1 1;plane a", ".;"},
+            {"box 1 1 1;viewer 1 a", "b 1;"}, {"box 1 1 1;reach", "es 1;"}, {"box 1 1 1;price shown", "n;"},
+            {"box 1 1 1;price 9999", "9;"}, {"box 1 1 1;price 1", ";"}};
+        for (String[] cut : cuts) {
+            Check.append(box, cut[0] + cut[1]);
+            CHECK.same("load of " + cut[0] + " ahead of " + cut[1], box.load(cut[0].length()), PeepBox.SYNTAX_ERROR);
+            CHECK.same("its offset", box.errorOffset(), cut[0].length());
+        }
     }
 
     /** "replaces all data by it; the time is 0, and no plane is pulled" */
@@ -163,6 +173,11 @@ final class AskEdgeTest {
         CHECK.same("all", box.checksum(), Check.loaded("box 3 3 3;").checksum());
         box.come(2, 0, 999);
         CHECK.same("price", box.price(0, 0), 10);
+        String full = "box 1 1 1;plane b;hole 0 0;hole 0 0;hole 0 0;hole 0 0;reach 1;length 1;price 1;";
+        for (int i = 0; i < 3; i++) {
+            CHECK.same("what may occur once may so in each text", Check.load(box, full), 0);
+            CHECK.same("holes", box.state(3), 4);
+        }
     }
 
     /** "The input buffer is empty afterwards, also if the text has an error." */
@@ -359,6 +374,20 @@ final class AskEdgeTest {
         CHECK.same("hole(1, 2)", box.hole(1, 2), -1);
     }
 
+    /** "3 how many different kinds are seen, 4 depth": of one, and of as many as there are */
+    private static void holeKindsAndDepth() {
+        PeepBox box = Check.loaded("box 12 8 1;plane abcdefghijkl mnopqrstuvwx yz" + "a".repeat(10)
+                + " aaaaaaaaaaaa".repeat(5) + ";hole 0 0;hole 11 7;");
+        CHECK.same("all kinds", box.hole(0, 3), 26);
+        CHECK.same("all kinds by the last hole", box.hole(1, 3), 26);
+        CHECK.same("depth of the plane 0", box.hole(1, 4), 1);
+        for (char kind = 'a'; kind <= 'z'; kind++) {
+            PeepBox one = Check.loaded("box 2 1 5;plane ..;plane ..;plane ..;plane ..;plane " + kind + kind + ";");
+            CHECK.same("one kind, " + kind, one.hole(0, 3), 1);
+            CHECK.same("depth of the plane 4", one.hole(0, 4), 5);
+        }
+    }
+
     /** "hole: Throws IndexOutOfBoundsException if ..., IllegalArgumentException if what is out of range" (0 to 4) */
     private static void holeThrows() {
         PeepBox box = Check.loaded("box 1 1 1;hole 0 0;hole 0 0;");
@@ -410,24 +439,28 @@ final class AskEdgeTest {
 
     /** "0 if it is seen, 1 if it is open now, 2 if no target's look crosses the plane at it, otherwise 3" */
     private static void whyFour() {
+        int[][] behindOpen = {{1, 1, 1, 1}, {0, 1, 0, 2}, {3, 3, 0, 3}};
+        whyOfAll(Check.loaded("box 4 1 3;plane ....;plane c.cc;plane efgh;"), behindOpen);
+        whyOfAll(Check.loaded("box 1 4 3;plane . . . .;plane c . c c;plane e f g h;"), behindOpen);
+        int[][] behindKinds = {{0, 0, 1, 2}, {3, 1, 3, 1}, {3, 3, 3, 3}};
+        whyOfAll(Check.loaded("box 4 1 3;plane bb.b;plane c.c.;plane efgh;"), behindKinds);
+        whyOfAll(Check.loaded("box 1 4 3;plane b b . b;plane c . c .;plane e f g h;"), behindKinds);
         PeepBox box = Check.loaded("box 4 1 3;plane bb.b;plane c.c.;plane efgh;hole 0 0;");
-        // The looks cross plane 0 at 0, 0, 0, 1 and plane 1 at 0, 0, 1, 2.
-        int[][] due = {{0, 0, 1, 2}, {3, 1, 3, 1}, {3, 3, 3, 3}};
-        whyRow(box, due);
         box.pull(0, 1);
-        whyRow(box, new int[][] {{1, 1, 1, 1}, {0, 1, 0, 1}, {3, 3, 0, 3}});
+        whyOfAll(box, new int[][] {{1, 1, 1, 1}, {0, 1, 0, 1}, {3, 3, 0, 3}});
         box.pull(1, 1);
-        whyRow(box, new int[][] {{1, 1, 1, 1}, {1, 1, 1, 1}, {0, 0, 0, 0}});
+        whyOfAll(box, new int[][] {{1, 1, 1, 1}, {1, 1, 1, 1}, {0, 0, 0, 0}});
         box.pull(0, 0);
-        whyRow(box, new int[][] {{0, 0, 1, 2}, {1, 1, 1, 1}, {3, 3, 3, 3}});
-        PeepBox beside = Check.loaded("box 4 1 3;plane ....;plane c.cc;plane efgh;hole 0 0;");
-        whyRow(beside, new int[][] {{1, 1, 1, 1}, {0, 1, 0, 2}, {3, 3, 0, 3}});
+        whyOfAll(box, new int[][] {{0, 0, 1, 2}, {1, 1, 1, 1}, {3, 3, 3, 3}});
     }
 
-    private static void whyRow(PeepBox box, int[][] due) {
+    /** From the one end they cross plane 0 at 0, 0, 0, 1 and plane 1 at 0, 0, 1, 2, across as well as down. */
+    private static void whyOfAll(PeepBox box, int[][] due) {
+        boolean down = box.state(0) == 1;
         for (int plane = 0; plane < due.length; plane++) {
-            for (int x = 0; x < due[plane].length; x++) {
-                CHECK.same("why(0, " + plane + ", " + x + ", 0)", box.why(0, plane, x, 0), due[plane][x]);
+            for (int i = 0; i < due[plane].length; i++) {
+                CHECK.same("why of " + i + " of plane " + plane, box.why(0, plane, down ? 0 : i, down ? i : 0),
+                        due[plane][i]);
             }
         }
     }
@@ -587,6 +620,16 @@ final class AskEdgeTest {
                 CHECK.same("it changes nothing", box.checksum(), before);
             }
         }
+    }
+
+    /** "the targets of all holes together": one hole alone would have another answer */
+    private static void bestPullAllHoles() {
+        PeepBox box = Check.loaded("box 1 4 2;plane b . c b;plane d d d d;hole 0 0;hole 0 3;hole 0 3;hole 0 3;");
+        CHECK.same("b by the hole at the top and three below", box.bestPull(0, 1), 0);
+        CHECK.same("c, for which the first hole alone would have 1", box.bestPull(0, 2), 0);
+        CHECK.same("d by the hole at the top and three below", box.bestPull(0, 3), 4);
+        PeepBox two = Check.loaded("box 1 4 2;plane c c . .;plane d d d d;hole 0 0;hole 0 3;");
+        CHECK.same("d by the hole at the top", two.bestPull(0, 3), 2);
     }
 
     /** The best pull, found by pulling another box. */

@@ -22,6 +22,9 @@ final class ModelTest {
         for (int run = 0; run < 20 * runs; run++) {
             new ModelTest(run + 1000000).texts(run);
         }
+        for (int run = 0; run < runs / 20; run++) {
+            new ModelTest(run + 2000000).beginnings(run);
+        }
         CHECK.finish();
     }
 
@@ -79,11 +82,24 @@ final class ModelTest {
         }
     }
 
+    /** All beginnings of one text, the rest of it standing behind them in the buffer. */
+    private void beginnings(int run) {
+        String text = setup();
+        text = text.substring(0, Math.min(text.length(), 800));
+        for (int length = 0; length <= text.length(); length++) {
+            load(run, text, length);
+        }
+    }
+
     private void load(int run) {
         load(run, setup());
     }
 
     private void load(int run, String text) {
+        load(run, text, Math.min(text.length(), 800));
+    }
+
+    private void load(int run, String text, int length) {
         for (int i = 0; i < text.length(); i += 20) {
             int[] w = new int[5];
             for (int b = 0; b < 20; b++) {
@@ -91,8 +107,7 @@ final class ModelTest {
             }
             same(run, "append", () -> box.append(w[0], w[1], w[2], w[3], w[4]), () -> model.append(w));
         }
-        int length = Math.min(text.length(), 800);
-        same(run, "load of " + text, () -> box.load(length), () -> model.load(length));
+        same(run, "load of " + length + " bytes of " + text, () -> box.load(length), () -> model.load(length));
         same(run, "errorOffset() of " + text, box::errorOffset, model::errorOffset);
         same(run, "checksum() of " + text, box::checksum, model::checksum);
     }

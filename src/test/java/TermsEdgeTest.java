@@ -173,6 +173,14 @@ final class TermsEdgeTest {
                 CHECK.same("the open cell beside", box.stands(0, 1, y), -1);
             }
         }
+        PeepBox high = Check.loaded("box 1 8 3;" + ("plane" + " b".repeat(8) + ";").repeat(3));
+        for (int rows = 0; rows <= 8; rows++) {
+            for (int plane = 0; plane < 2; plane++) {
+                high.pull(plane, rows);
+                CHECK.same("cells at pull " + rows, high.plane(plane, 1), 8 - rows);
+                CHECK.same("the lowest cell at pull " + rows, high.stands(plane, 0, 7), rows == 0 ? 1 : -1);
+            }
+        }
     }
 
     /** "There are 1 to 4 holes, with indexes from 0, each with an x (0 to width - 1) and a y (0 to height - 1)." */
